@@ -295,8 +295,8 @@ public final class AimFerry {
         if (!now.crossing.there || !within(n, 1, SOOTHE_MOST) || !within(what, 0, 1)) {
             return NOT_SO;
         }
-        int who = futures.bestSoothed(now, ruleInForce(), n);
-        return what == 0 ? who : futures.overWithout(now, ruleInForce(), n, who);
+        futures.findSoothed(now, ruleInForce(), n);
+        return what == 0 ? futures.bestSoothed : futures.mostOver;
     }
 
     public int never() {
@@ -481,15 +481,9 @@ public final class AimFerry {
             this.tape = tape;
         }
 
-        void fail(int place, int kind) {
-            if (fault == 0) {
-                fault = 1 + 8 * place + kind;
-            }
-        }
-
         boolean allow(boolean fine, int place, int kind) {
-            if (!fine) {
-                fail(place, kind);
+            if (!fine && fault == 0) {
+                fault = 1 + 8 * place + kind;
             }
             return fine;
         }
@@ -512,6 +506,10 @@ public final class AimFerry {
 
         boolean takeWord(String word) {
             skipBlanks();
+            return takeWordHere(word);
+        }
+
+        boolean takeWordHere(String word) {
             int length = word.length();
             for (int k = 0; k < length; k++) {
                 if (tape.at(at + k) != word.charAt(k)) {
@@ -530,8 +528,13 @@ public final class AimFerry {
             return sign >= '0' && sign <= '9';
         }
 
-        int readNumber(int least, int most) {
-            int from = skipBlanks();
+        int takeNumber(int least, int most) {
+            skipBlanks();
+            return takeNumberHere(least, most);
+        }
+
+        int takeNumberHere(int least, int most) {
+            int from = at;
             int value = 0;
             for (int k = 0; k < TAPE_MOST && isDigit(tape.at(at)); k++) {
                 if (k < DIGITS_MOST) {
@@ -539,10 +542,9 @@ public final class AimFerry {
                 }
                 at++;
             }
-            if (at == from) {
-                fail(from, CANT_STAND);
-            } else if (at - from > DIGITS_MOST || value < least || value > most) {
-                fail(from, BAD_NUMBER);
+            boolean asTold = at - from <= DIGITS_MOST && value >= least && value <= most;
+            if (allow(at > from, from, CANT_STAND)) {
+                allow(asTold, from, BAD_NUMBER);
             }
             return value;
         }
@@ -595,40 +597,40 @@ public final class AimFerry {
             } else if (takeWord("fog")) {
                 readFog(fine, place);
             } else {
-                fail(place, CANT_STAND);
+                allow(false, place, CANT_STAND);
             }
         }
 
         private void readBoat(boolean fine, int place) {
             if (allow(fine, place, BAD_CLAUSE)) {
                 into.there = true;
-                into.load = readNumber(0, 99);
-                into.seats = readNumber(1, 7);
-                into.fog = readNumber(0, 20);
+                into.load = takeNumber(0, 99);
+                into.seats = takeNumber(1, 7);
+                into.fog = takeNumber(0, 20);
             }
         }
 
         private void readPerson(boolean fine, int place) {
             if (allow(fine, place, BAD_CLAUSE)) {
-                int aim = readNumber(0, 40);
-                int grows = readNumber(0, 9);
+                int aim = takeNumber(0, 40);
+                int grows = takeNumber(0, 9);
                 into.add(aim, grows, 0);
             }
         }
 
         private void readCork(boolean fine, int place) {
             if (allow(fine, place, BAD_CLAUSE)) {
-                into.add(0, 0, readNumber(1, 20));
+                into.add(0, 0, takeNumber(1, 20));
             }
         }
 
         private void readBeside(boolean fine, int place) {
             if (allow(fine, place, BAD_CLAUSE)) {
-                int one = readNumber(0, into.people - 1);
+                int one = takeNumber(0, into.people - 1);
                 int from = skipBlanks();
-                int other = readNumber(0, into.people - 1);
+                int other = takeNumber(0, into.people - 1);
                 allow(other != one, from, BAD_NUMBER);
-                int extra = readNumber(0, 9);
+                int extra = takeNumber(0, 9);
                 if (fault == 0) {
                     into.setExtra(one, other, extra);
                 }
@@ -637,7 +639,7 @@ public final class AimFerry {
 
         private void readFog(boolean fine, int place) {
             if (allow(fine, place, BAD_CLAUSE)) {
-                int hour = readNumber(0, TOLD_HOUR);
+                int hour = takeNumber(0, TOLD_HOUR);
                 if (fault == 0) {
                     into.fogHours |= 1L << hour;
                 }
@@ -809,24 +811,18 @@ public final class AimFerry {
         private void readValue() {
             int place = skipBlanks();
             if (isDigit(tape.at(place))) {
-                put(Rule.NUMBER, readNumber(0, NUMBER_MOST));
+                put(Rule.NUMBER, takeNumberHere(0, NUMBER_MOST));
                 countPart(place);
                 return;
             }
-            int word = takeValueWord();
-            if (allow(word != NONE, place, CANT_STAND)) {
-                put(Rule.WORD, word);
-                countPart(place);
-            }
-        }
-
-        private int takeValueWord() {
             for (int word = 0; word < Rule.WORDS; word++) {
-                if (takeWord(valueWord(word))) {
-                    return word;
+                if (takeWordHere(valueWord(word))) {
+                    put(Rule.WORD, word);
+                    countPart(place);
+                    return;
                 }
             }
-            return NONE;
+            allow(false, place, CANT_STAND);
         }
 
         private String valueWord(int word) {
@@ -1028,8 +1024,8 @@ public final class AimFerry {
         int extraAmong(int person, int set) {
             int sum = 0;
             for (int other = 0; other < people; other++) {
-                if ((set >> other & 1) == 1) {
-                    sum += extra(person, other);
+                if ((set >> other & 1) == 1 && person >= 0 && person < people) {
+                    sum += extras[person * PEOPLE_MOST + other];
                 }
             }
             return sum;
@@ -1503,6 +1499,8 @@ public final class AimFerry {
         private static final int WAYS = 4;
 
         final Pilot pilot = new Pilot();
+        int bestSoothed;
+        int mostOver;
         int bestParted;
         int mostAlike;
         int overInFog;
@@ -1565,27 +1563,22 @@ public final class AimFerry {
             return ways;
         }
 
-        /** How many are on SIDE 1 after n TRIPS, if one's AIM were 0 (NONE: nobody's). */
-        int overWithout(Scene now, Rule rule, int n, int person) {
-            trial.copyFrom(now.river);
-            if (now.crossing.has(person)) {
-                trial.aims[person] = 0;
-            }
-            sailOn(now.crossing, rule, n);
-            return Integer.bitCount(trial.far);
-        }
-
-        int bestSoothed(Scene now, Rule rule, int n) {
-            int best = NONE;
-            int most = overWithout(now, rule, n, NONE);
-            for (int person = 0; person < now.crossing.people; person++) {
-                int over = overWithout(now, rule, n, person);
-                if (over > most) {
-                    best = person;
-                    most = over;
+        /** Puts whose AIM were best 0 (NONE: nobody's) and how many are on SIDE 1 then into the fields. */
+        void findSoothed(Scene now, Rule rule, int n) {
+            bestSoothed = NONE;
+            mostOver = -1;
+            for (int person = NONE; person < now.crossing.people; person++) {
+                trial.copyFrom(now.river);
+                if (person >= 0) {
+                    trial.aims[person] = 0;
+                }
+                sailOn(now.crossing, rule, n);
+                int over = Integer.bitCount(trial.far);
+                if (over > mostOver) {
+                    bestSoothed = person;
+                    mostOver = over;
                 }
             }
-            return best;
         }
 
         /** As bits, of which bit 0 is no RULE, and bit k + 1 is RULE k. */

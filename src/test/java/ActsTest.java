@@ -119,6 +119,15 @@ public final class ActsTest {
         f.force(-1);
         due("home without a RULE", f.trip(), 0);
         due("without a RULE", f.trip(), 3);
+        f = Check.crossing("ferry 9 1 0;person 3 0;person 5 0");
+        for (int k = 0; k < 6; k++) {
+            Check.rule(f, k == 5 ? "board aim" : "board 1");
+        }
+        due("by the last of 6", f.trip(), 2);
+        f = Check.crossing("ferry 5 3 0;cork 2;person 4 0;person 3 0");
+        due("a cork aboard lightens all who come", f.trip(), 7);
+        f = Check.crossing("ferry 99 7 0" + ";person 1 0".repeat(7));
+        due("all of 7", f.trip(), 127);
     }
 
     /** Who comes aboard by one test, of 4 (grows 1), 7 (grows 2) and a cork of 3; LOAD 30, SEATS 3, FOG 5 in HOUR 1. */
@@ -256,6 +265,9 @@ public final class ActsTest {
         f = Check.crossing("ferry 99 2 0;person 0 9");
         f.cross(1);
         due("0 does not grow", f.person(0, 0), 0);
+        f = Check.crossing("ferry 99 2 0;person 1 9");
+        f.cross(1);
+        due("1 does", f.person(0, 0), 10);
     }
 
     private static void crossHome() {
@@ -291,6 +303,17 @@ public final class ActsTest {
         due("HOURS that are asked go on", g.waits(0), 1000);
         due("all over", g.over(), 1001);
         due("other ACTS", g.toss(0, 1), 0);
+        g = Check.crossing("ferry 9 1 0;fog 59;fog 60");
+        for (int k = 0; k < 59; k++) {
+            due("no fog in HOUR " + k, g.count(11), 0);
+            g.trip();
+        }
+        due("fog in HOUR 59", g.count(11) + g.trip(), 1);
+        due("fog in HOUR 60", g.count(11) + g.trip(), 1);
+        for (int k = 61; k < 200; k++) {
+            due("no fog in HOUR " + k, g.count(11), 0);
+            g.trip();
+        }
     }
 
     private static void toss() {
@@ -314,6 +337,7 @@ public final class ActsTest {
         due("nothing", f.talk(0, 0), -1);
         due("too much", f.talk(0, 21), -1);
         due("a cork", f.talk(3, 1), -1);
+        due("a cork", Check.crossing("ferry 1 1 1;cork 1").talk(0, 1), -1);
         due("not there", f.talk(4, 1), -1);
         due("not there", f.talk(-1, 1), -1);
         due("no ACTS", f.count(13), 0);
@@ -434,7 +458,9 @@ public final class ActsTest {
         due("nothing can be UNDONE", f.undo(), -1);
         f.toss(2, 6);
         f.note(5, 0, 0);
+        due("an ACT", f.count(13), 1);
         due("gone on to", f.back(1), 2);
+        due("nothing can be UNDONE", f.undo(), -1);
         due("IN FORCE", f.count(5), 1);
         due("NOTES", f.count(12), 2);
         due("x", f.count(14), 6);

@@ -80,6 +80,9 @@ public final class AsksTest {
         f.cross(0);
         f.cross(0);
         due("from HOUR 2 on", f.over(), 101);
+        f = Check.rule(Check.crossing("ferry 5 1 0;person 2 0"), "board 1 if hour=100");
+        f.cross(0);
+        due("the 101st", f.over(), -2);
     }
 
     private static void weight() {
@@ -150,6 +153,13 @@ public final class AsksTest {
         due("(9 + 9) / 2, and 10 in mid stream: 19 / 2 is 9", f.lighten(3), 0);
         f.talk(0, 1);
         due("one more", f.lighten(3), 1);
+        due("down to 1", Check.crossing("ferry 4 3 0;person 5 3").lighten(1), 4);
+        due("down to 0", Check.crossing("ferry 3 3 0;person 5 3").lighten(1), 5);
+        due("one of two", Check.crossing("ferry 1 3 0;person 2 0").lighten(1), 1);
+        due("of the set alone", Check.crossing("ferry 5 3 0;person 9 0;person 1 9").lighten(1), 4);
+        due("the second's", Check.crossing("ferry 20 3 0;person 10 0;person 5 9;person 10 0").lighten(7), 5);
+        due("two of three", Check.crossing("ferry 10 3 0;person 5 9;person 5 9;person 10 0").lighten(7), 10);
+        due("one whole, one in part", Check.crossing("ferry 5 3 0;person 10 0;person 5 9").lighten(3), 10);
     }
 
     private static void fewest() {
@@ -181,6 +191,17 @@ public final class AsksTest {
         f.cross(2);
         f.cross(0);
         due("all over, the boat here", f.fewest(0), 0);
+        due("all at once", Check.crossing("ferry 20 7 0;person 1 0;person 1 0").fewest(1), 3);
+        // in fog nobody, and no one of them, may go home; going home both weigh 0 and 7 less 2
+        f = Check.crossing("ferry 5 3 7;cork 1;cork 1;cork 20;beside 0 1 1;fog 1");
+        f.cross(3);
+        due("home and over", f.fewest(0), 2);
+        due("both come home", f.fewest(1), 3);
+        f = Check.crossing("ferry 5 1 7;cork 1;cork 1;cork 20;beside 0 1 1;fog 3");
+        f.cross(1);
+        f.cross(0);
+        f.cross(2);
+        due("one seat", f.fewest(0), -2);
     }
 
     private static void row() {
@@ -236,6 +257,18 @@ public final class AsksTest {
         due("the least", f.fare(7, 5, 0), 2);
         due("the next", f.fare(7, 5, 1), 2);
         due("the last", f.fare(7, 5, 2), 1);
+        f.toss(1, 4);
+        f.talk(2, 1);
+        f.toss(2, 4);
+        // AIMS 5, 1, 2: of 5 the parts are 3 and 1/8, 0 and 5/8, 1 and 2/8; of 6 3 and 6/8, 0 and 6/8, 1 and 4/8
+        due("5/8 is the most", f.fare(7, 5, 1), 1);
+        due("1/8 is not", f.fare(7, 5, 0), 3);
+        due("6/8", f.fare(7, 6, 0) * 100 + f.fare(7, 6, 1) * 10 + f.fare(7, 6, 2), 411);
+        f.undo();
+        f.undo();
+        f.undo();
+        due("2 of 3 lost 1, 1 of 3 lost 2", Check.crossing("ferry 9 3 0;person 2 0;person 1 0").fare(3, 5, 0), 3);
+        due("2 of 3 lost 1, 1 of 3 lost 2", Check.crossing("ferry 9 3 0;person 2 0;person 1 0").fare(3, 5, 1), 2);
         due("all AIMS 0", f.fare(24, 5, 3), 3);
         due("all AIMS 0", f.fare(24, 5, 4), 2);
         f.toss(0, 5);
@@ -355,6 +388,7 @@ public final class AsksTest {
         due("but takes a seat", Check.crossing("ferry 10 1 0;person 12 0;person 8 3;person 5 1;cork 2").never(), 3);
         due("not even nobody", Check.crossing("ferry 10 7 11;person 0 0;fog 0").never(), 1);
         due("no PEOPLE", Check.crossing("ferry 10 7 11").never(), 0);
+        due("all together", Check.crossing("ferry 10 2 0;person 12 0;cork 2").never(), 0);
         due("all of 7", Check.crossing("ferry 0 7 0" + ";person 1 0".repeat(7)).never(), 127);
     }
 
@@ -441,6 +475,13 @@ public final class AsksTest {
         f.note(0, 0, 1);
         due("no RULE is so", f.look(1, 0), -2);
         due("no RULE is so", f.look(1, 1), -2);
+        f = Check.crossing("ferry 20 1 0;person 4 0;person 7 0");
+        for (int k = 0; k < 6; k++) {
+            Check.rule(f, k < 5 ? "board 1" : "board aim");
+        }
+        f.note(1, 1, 1);
+        due("the last of 6", f.look(1, 1), 1);
+        due("the last of 6", f.ruled(1), 5);
         due("no PEOPLE", Check.crossing("ferry 1 1 1").look(1, 0), -2);
         due("no PEOPLE", Check.crossing("ferry 1 1 1").look(1, 1), -2);
     }
@@ -468,6 +509,9 @@ public final class AsksTest {
         f.seed(551188310);
         due("from another x on", f.fogs(2, 1, 52, 0), 2);
         due("from another x on", f.fogs(2, 1, 53, 0), 1);
+        f.seed(0);
+        due("once", f.fogs(1, 1, 0, 0), 1);
+        due("once", f.fogs(1, 1, 1, 0), 0);
         due("m", f.fogs(0, 1, 1, 0), -1);
         due("m", f.fogs(11, 1, 1, 0), -1);
         due("n", f.fogs(1, 0, 1, 0), -1);

@@ -106,6 +106,7 @@ public final class TextsTest {
         ferryDue("ferry 0 1 0", 0);
         ferryDue("ferry 99 7 20", 0);
         ferryDue("  ferry   99 7  20  ", 0);
+        ferryDue("ferry 1 1 1;cork 1;cork 1;beside 1 0 0", 2);
         ferryDue("ferry99 7 20;person40 9;cork20;fog60", 2);
         ferryDue("ferry 00099 00001 00000", 0);
         ferryDue("ferry 1 1 1;person 0 0;cork 1;person 1 1;cork 2;person 3 3;cork 3;person 4 4", 7);
@@ -136,6 +137,8 @@ public final class TextsTest {
         ferryDue("ferry", Check.fault(5, 0));
         ferryDue("ferry 1 1  ", Check.fault(11, 0));
         ferryDue("ferrys 1 1 1", Check.fault(0, 0));
+        ferryDue("ferryz 1 1 1", Check.fault(0, 0));
+        ferryDue("ferrya 1 1 1", Check.fault(0, 0));
         ferryDue(" x", Check.fault(1, 0));
         ferryDue("Ferry 1 1 1", Check.fault(0, 0));
         ferryDue("\u00e9", Check.fault(0, 0));
@@ -206,6 +209,10 @@ public final class TextsTest {
         Check.feed(f, "ferry 30 4 6");
         due("nobody", f.ferry(), 0);
         due("nobody is there", f.person(0, 0), -1);
+        Check.feed(f, "ferry 1 1 1;cork 1;cork 1;beside 0 1 7;fog 0;").ferry();
+        Check.crossing(f, "ferry 1 1 1;cork 1;cork 1");
+        due("nothing of a text with a FAULT", f.beside(0, 1), 0);
+        due("nothing of a text with a FAULT", f.count(11), 0);
     }
 
     private static void rule() {
@@ -275,6 +282,8 @@ public final class TextsTest {
             + "]".repeat(10) + " and not 1=1", 0);
         ruleDue("board " + "1+".repeat(59) + "1", 0);
         ruleDue("board " + "1+".repeat(60) + "1", Check.fault(126, 3));
+        ruleDue("board " + "aim+".repeat(59) + "fog", 0);
+        ruleDue("board " + "aim+".repeat(60) + "fog", Check.fault(246, 3));
         ruleDue("board " + "1+".repeat(60) + "000001", Check.fault(126, 1));
         ruleDue("board " + "1+".repeat(60) + "x", Check.fault(126, 0));
         ruleDue("board " + "1*".repeat(57) + "1 if 1", Check.fault(126, 0));
