@@ -126,6 +126,8 @@ public final class ActsTest {
         due("by the last of 6", f.trip(), 2);
         f = Check.crossing("ferry 5 3 0;cork 2;person 4 0;person 3 0");
         due("a cork aboard lightens all who come", f.trip(), 7);
+        f = Check.crossing("ferry 9 3 0;person 3 0;person 5 0;beside 0 1 2");
+        due("3 beside 5 are 10", Check.rule(f, "board aim").trip(), 2);
         f = Check.crossing("ferry 99 7 0" + ";person 1 0".repeat(7));
         due("all of 7", f.trip(), 127);
     }

@@ -153,6 +153,7 @@ public final class AsksTest {
         due("(9 + 9) / 2, and 10 in mid stream: 19 / 2 is 9", f.lighten(3), 0);
         f.talk(0, 1);
         due("one more", f.lighten(3), 1);
+        due("a cork first", Check.crossing("ferry 5 3 0;cork 1;person 9 0").lighten(3), 3);
         due("down to 1", Check.crossing("ferry 4 3 0;person 5 3").lighten(1), 4);
         due("down to 0", Check.crossing("ferry 3 3 0;person 5 3").lighten(1), 5);
         due("one of two", Check.crossing("ferry 1 3 0;person 2 0").lighten(1), 1);
