@@ -18,6 +18,7 @@ public final class AimFerry {
     private static final int TALK_MOST = 20;
     private static final int HOUR_BY_HAND = 999;
     private static final int TOLD_HOUR = 60;
+    private static final int LAST_TRIP = 60;
     private static final int AHEAD_MOST = 100;
     private static final int FARE_MOST = 9999;
     private static final int LIES_MOST = 20;
@@ -312,7 +313,7 @@ public final class AimFerry {
             now.noteCount = 0;
             return 0;
         }
-        if (!within(n, 0, TOLD_HOUR) || !now.crossing.has(person) || !within(side, 0, 1)
+        if (!within(n, 0, LAST_TRIP) || !now.crossing.has(person) || !within(side, 0, 1)
                 || now.noteCount >= NOTES_MOST) {
             return NOT_SO;
         }
@@ -333,7 +334,7 @@ public final class AimFerry {
     }
 
     public int look(int n, int what) {
-        if (!now.crossing.there || !within(n, 0, TOLD_HOUR) || !within(what, 0, 1)) {
+        if (!now.crossing.there || !within(n, 0, LAST_TRIP) || !within(what, 0, 1)) {
             return NONE;
         }
         int how = futures.rulesThatAreSo(now, rules, ruleCount);
@@ -1144,7 +1145,7 @@ public final class AimFerry {
 
     /** All that an IMAGE keeps. */
     private static final class Scene {
-        private static final int NOTE_HOURS = 64;
+        private static final int NOTE_TRIPS = 64;
 
         Crossing crossing;
         final River river = new River();
@@ -1179,24 +1180,24 @@ public final class AimFerry {
 
         void addNote(int n, int person, int side) {
             if (noteCount < NOTES_MOST) {
-                notes[noteCount] = (person * 2 + side) * NOTE_HOURS + n;
+                notes[noteCount] = (person * 2 + side) * NOTE_TRIPS + n;
                 noteCount++;
             }
         }
 
         int lastNoted() {
-            int last = 0;
+            int last = NONE;
             for (int k = 0; k < noteCount; k++) {
-                last = Math.max(last, notes[k] % NOTE_HOURS);
+                last = Math.max(last, notes[k] % NOTE_TRIPS);
             }
             return last;
         }
 
-        /** Whether all NOTES of the n-th TRIP are so. */
+        /** Whether all NOTES of TRIP n are so, as it is behind that TRIP. */
         boolean agrees(int n, River then) {
             for (int k = 0; k < noteCount; k++) {
-                int told = notes[k] / NOTE_HOURS;
-                if (notes[k] % NOTE_HOURS == n && then.sideOf(told / 2) != told % 2) {
+                int told = notes[k] / NOTE_TRIPS;
+                if (notes[k] % NOTE_TRIPS == n && then.sideOf(told / 2) != told % 2) {
                     return false;
                 }
             }
@@ -1595,13 +1596,14 @@ public final class AimFerry {
         private boolean isSo(Scene now, Rule rule) {
             int last = now.lastNoted();
             trial.begin(now.crossing);
-            for (int n = 0; n < last; n++) {
+            // TRIP 0 is the first of all, so even a NOTE of n 0 has one TRIP ahead of it.
+            for (int n = 0; n <= last; n++) {
+                pilot.sail(now.crossing, trial, rule, false);
                 if (!now.agrees(n, trial)) {
                     return false;
                 }
-                pilot.sail(now.crossing, trial, rule, false);
             }
-            return now.agrees(last, trial);
+            return true;
         }
 
         /** Puts the PERSON by whose SIDE the RULES that are so part best into the fields. */
@@ -1610,7 +1612,8 @@ public final class AimFerry {
             for (int k = 0; k <= rules.length; k++) {
                 if ((so >> k & 1) == 1) {
                     trial.begin(now.crossing);
-                    sailOn(now.crossing, k == 0 ? null : rules[k - 1], n);
+                    // Behind TRIP n there were n + 1, since the first of all is TRIP 0.
+                    sailOn(now.crossing, k == 0 ? null : rules[k - 1], n + 1);
                     for (int person = 0; person < now.crossing.people; person++) {
                         overBy[person] += trial.sideOf(person);
                     }

@@ -434,7 +434,8 @@ public final class ActsTest {
         f.force(-1);
         f.seed(5);
         f.trip();
-        f.note(1, 0, 0);
+        // behind TRIP 0, which turns back by each RULE
+        f.note(0, 0, 0);
         f.toss(2, 3);
         due("HOUR", f.image(0), 1);
         due("ACTS stay", f.count(13), 2);

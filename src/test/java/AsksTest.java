@@ -24,7 +24,9 @@ public final class AsksTest {
         never();
         note();
         ruled();
+        ruledBehindTrip();
         look();
+        lookBehindTrip();
         seed();
         fogs();
         CHECK.finish();
@@ -417,7 +419,7 @@ public final class AsksTest {
     }
 
     private static AimFerry threeWays() {
-        // none: 0, home, 1; RULE 0: 0 to and fro; RULE 1: 1, home, 0
+        // who is over behind TRIP 0, 1, 2 ..: none: 0, 0, both ..; RULE 0: 0, nobody, 0, nobody ..; RULE 1: 1, 1, both ..
         AimFerry f = Check.crossing("ferry 20 1 0;person 4 0;person 7 0");
         Check.rule(f, "board 1");
         return Check.rule(f, "board aim if side=0");
@@ -431,60 +433,130 @@ public final class AsksTest {
         due("what", f.ruled(-1), -3);
         f.toss(1, 7);
         f.trip();
-        f.note(1, 0, 1);
+        f.note(0, 0, 1);
         due("none and 0, all as the text told it", f.ruled(0), 2);
         due("none", f.ruled(1), -1);
-        f.note(2, 0, 0);
+        f.note(1, 0, 0);
         due("0 alone", f.ruled(0), 1);
         due("0 alone", f.ruled(1), 0);
         f.note(-1, 0, 0);
-        f.note(1, 1, 1);
+        f.note(0, 1, 1);
         due("1 alone", f.ruled(0), 1);
         due("1 alone", f.ruled(1), 1);
-        f.note(3, 0, 1);
+        f.note(2, 0, 1);
         f.note(0, 0, 0);
         due("still", f.ruled(1), 1);
         f.note(0, 0, 1);
         due("there is none such", f.ruled(0), 0);
         due("there is none such", f.ruled(1), -2);
-        f.note(-1, 0, 0);
-        f.note(60, 1, 0);
-        due("to and fro", f.ruled(0), 1);
-        due("to and fro", f.ruled(1), 0);
         due("HOUR", f.count(6), 1);
+    }
+
+    /** Without a RULE, by one NOTE alone: whether it is so. */
+    private static void noteDue(String text, int n, int side, int want) {
+        AimFerry f = Check.crossing(text);
+        f.note(n, 0, side);
+        due(text + ", NOTE of TRIP " + n + " and SIDE " + side, f.ruled(0), want);
+        due(text + ", the first", f.ruled(1), want == 1 ? -1 : -2);
+    }
+
+    /** TRIP 0 is the first of all: a NOTE of n 0 speaks of how it is behind that TRIP. */
+    private static void ruledBehindTrip() {
+        noteDue("ferry 9 2 0;person 4 1", 0, 0, 0);
+        noteDue("ferry 9 2 0;person 4 1", 0, 1, 1);
+        noteDue("ferry 4 2 0;person 4 1", 0, 0, 1);
+        noteDue("ferry 4 2 0;person 4 1", 0, 1, 0);
+        // in HOUR 0 the boat stays, for fog: that is a TRIP, too
+        noteDue("ferry 9 2 10;person 4 1;fog 0", 0, 0, 1);
+        noteDue("ferry 9 2 10;person 4 1;fog 0", 1, 0, 0);
+        noteDue("ferry 9 2 10;person 4 1;fog 0", 1, 1, 1);
+        lastTripNoted();
+        AimFerry f = threeWays();
+        int[][] notes = {{60, 0, 1}, {0, 0, 1}, {59, 0, 0}, {1, 1, 0}, {2, 0, 1}, {1, 0, 0}};
+        int[] many = {3, 2, 1, 1, 1, 1};
+        int[] first = {-1, -1, 0, 0, 0, 0};
+        for (int k = 0; k < notes.length; k++) {
+            f.note(notes[k][0], notes[k][1], notes[k][2]);
+            due("so by " + (k + 1) + " NOTES", f.ruled(0), many[k]);
+            due("the first by " + (k + 1) + " NOTES", f.ruled(1), first[k]);
+        }
+        f.note(60, 1, 1);
+        due("the last NOTE is not so", f.ruled(0), 0);
+    }
+
+    private static void lastTripNoted() {
+        AimFerry f = threeWays();
+        f.note(60, 1, 0);
+        due("1 is never over by RULE 0", f.ruled(0), 1);
+        due("1 is never over by RULE 0", f.ruled(1), 0);
+        f.note(-1, 0, 0);
+        f.note(60, 0, 0);
+        due("behind TRIP 60 it is over by each", f.ruled(0), 0);
+        due("behind TRIP 60 it is over by each", f.ruled(1), -2);
+        f.note(-1, 0, 0);
+        f.note(59, 0, 0);
+        due("behind TRIP 59 it is home by RULE 0", f.ruled(0), 1);
+        due("behind TRIP 59 it is home by RULE 0", f.ruled(1), 0);
+        // fog keeps the boat there on TRIPS 0 to 37
+        StringBuilder text = new StringBuilder("ferry 10 1 20;person 4 0");
+        for (int hour = 0; hour < 38; hour++) {
+            text.append(";fog ").append(hour);
+        }
+        noteDue(text.toString(), 37, 0, 1);
+        noteDue(text.toString(), 38, 0, 0);
+        noteDue(text.toString(), 60, 1, 1);
     }
 
     private static void look() {
         AimFerry f = threeWays();
-        due("behind the first", f.look(1, 0), 0);
+        due("behind TRIP 1", f.look(1, 0), 0);
         due("two alike", f.look(1, 1), 2);
-        // behind the third: both, 0, both
-        due("behind the third", f.look(3, 0), 1);
-        due("two alike", f.look(3, 1), 2);
-        due("at the begin", f.look(0, 0), 0);
-        due("all alike", f.look(0, 1), 3);
-        f.note(2, 1, 0);
-        // none: 0, home; RULE 0: 0 to and fro
-        due("of those that are so", f.look(2, 0), 0);
-        due("one each", f.look(2, 1), 1);
-        due("the other part", f.look(3, 0), 1);
-        due("late", f.look(60, 1), 1);
+        due("behind TRIP 2", f.look(2, 0), 1);
+        due("two alike", f.look(2, 1), 2);
+        f.note(1, 1, 0);
+        // none and RULE 0 are so
+        due("of those that are so", f.look(1, 0), 0);
+        due("one each", f.look(1, 1), 1);
+        due("the other part", f.look(2, 0), 1);
         due("too late", f.look(61, 0), -1);
         due("below 0", f.look(-1, 0), -1);
         due("what", f.look(1, 2), -1);
         due("what", f.look(1, -1), -1);
-        f.note(0, 0, 1);
+        f.note(0, 0, 0);
         due("no RULE is so", f.look(1, 0), -2);
         due("no RULE is so", f.look(1, 1), -2);
         f = Check.crossing("ferry 20 1 0;person 4 0;person 7 0");
         for (int k = 0; k < 6; k++) {
             Check.rule(f, k < 5 ? "board 1" : "board aim");
         }
-        f.note(1, 1, 1);
+        f.note(0, 1, 1);
         due("the last of 6", f.look(1, 1), 1);
         due("the last of 6", f.ruled(1), 5);
         due("no PEOPLE", Check.crossing("ferry 1 1 1").look(1, 0), -2);
         due("no PEOPLE", Check.crossing("ferry 1 1 1").look(1, 1), -2);
+    }
+
+    /** TRIP 0 is the first of all: look(0, ..) asks of how it is behind that TRIP. */
+    private static void lookBehindTrip() {
+        AimFerry f = Check.rule(Check.crossing("ferry 9 2 0;person 4 1"), "board 0");
+        due("over and not", f.look(0, 0), 0);
+        due("one each", f.look(0, 1), 1);
+        f = Check.rule(Check.crossing("ferry 9 2 0;person 4 1"), "board 1");
+        due("over by both", f.look(0, 0), 0);
+        due("both alike", f.look(0, 1), 2);
+        due("home by one", f.look(1, 1), 1);
+        f = threeWays();
+        due("behind TRIP 0: 0, 0 and 1", f.look(0, 0), 0);
+        due("two alike", f.look(0, 1), 2);
+        due("behind TRIP 60: both, 0 and both", f.look(60, 0), 1);
+        due("two alike", f.look(60, 1), 2);
+        due("behind TRIP 59: both, nobody and both", f.look(59, 0), 0);
+        f.note(1, 1, 0);
+        due("behind TRIP 60: both and 0", f.look(60, 0), 1);
+        due("one each", f.look(60, 1), 1);
+        due("behind TRIP 59: both and nobody", f.look(59, 0), 0);
+        due("one each", f.look(59, 1), 1);
+        due("HOUR", f.count(6), 0);
     }
 
     private static void seed() {

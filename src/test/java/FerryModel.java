@@ -979,9 +979,10 @@ final class FerryModel {
         return notes.size();
     }
 
-    State fromBegin(int rule, int n) {
+    /** How it is behind TRIP n of all; the first made from the begin on is TRIP 0. */
+    State behindTrip(int rule, int n) {
         State s = new State(crossing);
-        for (int k = 0; k < n; k++) {
+        for (int trip = 0; trip <= n; trip++) {
             sail(crossing, s, rule < 0 ? null : rules.get(rule), false);
         }
         return s;
@@ -992,7 +993,7 @@ final class FerryModel {
         for (int r = -1; r < rules.size(); r++) {
             boolean fine = true;
             for (Note note : notes) {
-                fine &= fromBegin(r, note.n()).side[note.person()] == note.side();
+                fine &= behindTrip(r, note.n()).side[note.person()] == note.side();
             }
             if (fine) {
                 list.add(r);
@@ -1019,7 +1020,7 @@ final class FerryModel {
         }
         int[] far = new int[state.side.length];
         for (int r : list) {
-            State s = fromBegin(r, n);
+            State s = behindTrip(r, n);
             for (int p = 0; p < far.length; p++) {
                 far[p] += s.side[p];
             }
