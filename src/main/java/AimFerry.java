@@ -24,6 +24,7 @@ public final class AimFerry {
     private static final int LIES_MOST = 20;
     private static final int SOOTHE_MOST = 30;
     private static final int FOGS_TIMES = 10;
+    private static final int FOGS_TRIPS = 60;
     private static final int PERCENT = 100;
 
     private final Tape tape;
@@ -355,7 +356,7 @@ public final class AimFerry {
     }
 
     public int fogs(int m, int n, int p, int what) {
-        if (!now.crossing.there || !within(m, 1, FOGS_TIMES) || !within(n, 1, TOLD_HOUR)
+        if (!now.crossing.there || !within(m, 1, FOGS_TIMES) || !within(n, 1, FOGS_TRIPS)
                 || !within(p, 0, PERCENT) || !within(what, 0, 1)) {
             return NONE;
         }
